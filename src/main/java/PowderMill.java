@@ -229,7 +229,7 @@ public final class PowderMill {
                 nextStep += Math.floorMod(a, 4);
                 return NO_FAULT;
             case AGAIN:
-                goBack(Math.floorMod(a, 4));
+                nextStep = path.stepBehindAgain(Math.floorMod(a, 4), nextStep);
                 return NO_FAULT;
             default:
                 return NO_FAULT;
@@ -287,22 +287,16 @@ public final class PowderMill {
         return NO_FAULT;
     }
 
-    private void goBack(int most) {
-        if (path.goesBack(most)) {
-            nextStep = path.stepBehindIn();
-        }
-    }
-
     /** A place's HOUSE; it is made once and set up anew for each HOUSE that is built there. */
     private static final class House {
-        private boolean stands = false;
-        private int walls = 0;
-        private int powder = 0;
-        private boolean refuge = false;
-        private int timesIn = 0;
-        private int sparks = 0;
-        private int timesCaught = 0;
-        private int staysNow = 0;
+        private boolean stands;
+        private int walls;
+        private int powder;
+        private boolean refuge;
+        private int timesIn;
+        private int sparks;
+        private int timesCaught;
+        private int staysNow;
 
         void setUp(int newWalls, boolean newRefuge) {
             stands = true;
@@ -368,10 +362,8 @@ public final class PowderMill {
             return depth >= 2 ? houses[depth - 2] : null;
         }
 
+        /** Only while it is not full. */
         void enter(House entered, int inStep) {
-            if (isFull()) {
-                return;
-            }
             houses[depth] = entered;
             inSteps[depth] = inStep;
             timesBack[depth] = 0;
@@ -381,7 +373,7 @@ public final class PowderMill {
         }
 
         void leaveHere() {
-            leaveDownTo(Math.max(depth - 1, 0));
+            leaveDownTo(depth - 1);
         }
 
         void leaveDownTo(int rest) {
@@ -401,17 +393,13 @@ public final class PowderMill {
             return false;
         }
 
-        /** Whether an AGAIN goes back now; one that does is counted for the stay that it was begun in. */
-        boolean goesBack(int most) {
+        /** The STEP that an AGAIN goes back to, or the one told if it does not; one that does is counted for its stay. */
+        int stepBehindAgain(int most, int otherwise) {
             if (depth == 0 || timesBack[depth - 1] >= most) {
-                return false;
+                return otherwise;
             }
             timesBack[depth - 1]++;
-            return true;
-        }
-
-        int stepBehindIn() {
-            return depth == 0 ? 0 : inSteps[depth - 1] + 1;
+            return inSteps[depth - 1] + 1;
         }
     }
 }

@@ -93,6 +93,8 @@ public final class PowderMillPromises {
         try {
             return "" + x.row(i);
         } catch (RuntimeException e) {
+            // The machine's own throw tells the index; the class must not leave it to the machine.
+            due("row(" + i + ") by the machine's throw", ("" + e.getMessage()).contains("" + i) ? 1 : 0, 0);
             return "throws." + e.getClass().getSimpleName();
         }
     }
@@ -391,6 +393,8 @@ public final class PowderMillPromises {
         due("by zero, caught", runOf(x, IN, 3, SHARE, -10), 2);
         due("powder stays", x.house(3, POWDER), 4);
         due("ZERO met", x.count(10 + ZERO), 1);
+        due("share outside a refuge", runOf(x, IN, 2, GRIND, 9, SHARE, 2, WRITE, 1), 4);
+        due("cut", x.row(1), 4);
         due("by zero in the yard", runOf(x, SHARE, 0), 1);
         due("ZERO met", x.count(10 + ZERO), 1);
     }
