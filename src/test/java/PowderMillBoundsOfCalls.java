@@ -16,7 +16,7 @@ public final class PowderMillBoundsOfCalls {
     private static final int NONE = 1, SPARK = 3, ROW = 6;
     private static final int WALLS = 0, NOW = 6;
 
-    /** The sentence of the document that a test holds the class to, and the promise that it belongs to. */
+    /** What a test holds the class to, by the words of the document or by what follows from them, and the promise that it belongs to. */
     @Retention(RetentionPolicy.RUNTIME)
     private @interface Says {
         int promise();

@@ -15,7 +15,7 @@ public final class PowderMillBoundsOfRuns {
     private static final int NONE = 1, DEEP = 2, SPARK = 3, SHORT = 4, ZERO = 5, ROW = 6;
     private static final int POWDER = 1, TIMES_IN = 3, SPARKS = 4, CAUGHT = 5, NOW = 6;
 
-    /** The sentence of the document that a test holds the class to, and the promise that it belongs to. */
+    /** What a test holds the class to, by the words of the document or by what follows from them, and the promise that it belongs to. */
     @Retention(RetentionPolicy.RUNTIME)
     private @interface Says {
         int promise() default 7;
